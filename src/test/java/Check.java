@@ -1,16 +1,46 @@
+import java.util.ArrayList;
+import java.util.List;
+
 /** What the tests share: putting texts into an object and telling the answers that are not due. */
 final class Check {
     private static final String[] OPERATIONS = {
         "LIT", "LOD", "STO", "LDX", "STX", "CAL", "INT", "JMP", "JPC", "OPR", "?", "CHK"};
 
+    private final List<String> sentences = new ArrayList<>();
+    private String sentence = "";
     private int answers = 0;
     private int wrong = 0;
+
+    /** Runs the test of a sentence of the document; what is wrong is told with the sentence. */
+    void sentence(String words, Runnable test) {
+        sentences.add(words);
+        sentence = "\"" + words + "\": ";
+        int before = answers;
+        try {
+            test.run();
+        } catch (RuntimeException e) {
+            tell("the test threw " + e);
+        }
+        if (answers == before) {
+            tell("the test asked for no answer");
+        }
+        sentence = "";
+    }
+
+    /** The sentences that have been tested. */
+    List<String> sentences() {
+        return sentences;
+    }
+
+    void tell(String fault) {
+        wrong++;
+        System.out.println(sentence + fault);
+    }
 
     void due(String what, long want, long got) {
         answers++;
         if (got != want) {
-            wrong++;
-            System.out.println(what + " answered " + got + ", due is " + want);
+            tell(what + " answered " + got + ", due is " + want);
         }
     }
 
@@ -21,8 +51,7 @@ final class Check {
     void due(String what, String want, String got) {
         answers++;
         if (!want.equals(got)) {
-            wrong++;
-            System.out.println(what + " answered\n  " + got + "\ndue is\n  " + want);
+            tell(what + " answered\n  " + got + "\ndue is\n  " + want);
         }
     }
 
@@ -86,7 +115,8 @@ final class Check {
     /** The code as "JMP 0 1, INT 0 3, ...". */
     static String listing(NestPascal x) {
         StringBuilder all = new StringBuilder();
-        for (int k = 0; k < x.code(-1, 0); k++) {
+        int size = x.code(-1, 0);
+        for (int k = 0; k < size; k++) {
             all.append(k == 0 ? "" : ", ").append(OPERATIONS[x.code(k, 0)]);
             all.append(' ').append(x.code(k, 1)).append(' ').append(x.code(k, 2));
         }
@@ -140,12 +170,47 @@ final class Check {
     /** A text with a stroke in front of the token that is wrong. */
     void error(int want, String marked) {
         int place = marked.indexOf('|');
-        String text = marked.substring(0, place) + marked.substring(place + 1);
+        errorAt(want, place, marked.substring(0, place) + marked.substring(place + 1));
+    }
+
+    void errorAt(int want, int place, String text) {
         NestPascal x = new NestPascal();
         put(x, text);
-        due("whether compile throws for " + marked, true, compileThrows(x));
-        due("error(0) of " + marked, want, x.error(0));
-        due("error(1) of " + marked, place, x.error(1));
+        due("whether compile throws for " + text, true, compileThrows(x));
+        due("error(0) of " + text, want, x.error(0));
+        due("error(1) of " + text, place, x.error(1));
+    }
+
+    /** The code that a text brings, and that compile counts it. */
+    void made(String text, String want) {
+        NestPascal x = new NestPascal();
+        put(x, text);
+        int size = x.compile();
+        due("the code of " + text, want, listing(x));
+        due("the size of " + text, want.split(", ").length, size);
+    }
+
+    /** A program whose variables leave so many of the 200 cells free; x is its first variable. */
+    static String leavingFree(int cells, String rest) {
+        int last = 200 - 3 - 1 - 5 * 30 - cells;
+        return "var x;a array30;b array30;c array30;d array30;e array30;"
+                + (last > 30 ? "h array30;i array" + (last - 30) : "h array" + last) + ";" + rest;
+    }
+
+    /** A program that runs, the next instruction of which is the one at a place for the first time. */
+    static NestPascal before(String text, int instruction) {
+        NestPascal x = started(text);
+        for (int i = 0; i < 150 && x.about(1) != instruction; i++) {
+            x.run(1);
+        }
+        return x;
+    }
+
+    /** What about answers when a program has run till it ends. */
+    void ends(String text, String want) {
+        NestPascal x = started(text);
+        runOut(x);
+        due("about behind " + text, want, facts(x));
     }
 
     /** A text without an error. */

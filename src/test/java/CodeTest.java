@@ -15,78 +15,70 @@ public final class CodeTest {
         CHECK.finish();
     }
 
-    private static void made(String text, String want) {
-        NestPascal x = new NestPascal();
-        Check.put(x, text);
-        int size = x.compile();
-        CHECK.due("the code of " + text, want, Check.listing(x));
-        CHECK.due("the size of " + text, want.split(", ").length, size);
-    }
-
     private static void blocks() {
-        made("begin end.", "JMP 0 1, INT 0 3, OPR 0 0");
-        made("begin begin end;; end.", "JMP 0 1, INT 0 3, OPR 0 0");
-        made("var a;b array 30;c;begin end.", "JMP 0 1, INT 0 35, OPR 0 0");
-        made("proc f;begin end;proc g(x,y);var z;begin end;begin end.",
+        CHECK.made("begin end.", "JMP 0 1, INT 0 3, OPR 0 0");
+        CHECK.made("begin begin end;; end.", "JMP 0 1, INT 0 3, OPR 0 0");
+        CHECK.made("var a;b array 30;c;begin end.", "JMP 0 1, INT 0 35, OPR 0 0");
+        CHECK.made("proc f;begin end;proc g(x,y);var z;begin end;begin end.",
                 "JMP 0 7, JMP 0 2, INT 0 3, OPR 0 0, JMP 0 5, INT 0 4, OPR 2 0, INT 0 3, OPR 0 0");
-        made("proc f;proc g(x,y,z);begin end;begin end;begin end.",
+        CHECK.made("proc f;proc g(x,y,z);begin end;begin end;begin end.",
                 "JMP 0 7, JMP 0 5, JMP 0 3, INT 0 3, OPR 3 0, INT 0 3, OPR 0 0, INT 0 3, OPR 0 0");
     }
 
     private static void variablesAndExpressions() {
-        made("var a;b;begin b:=a end.", "JMP 0 1, INT 0 5, LOD 0 3, STO 0 4, OPR 0 0");
-        made("begin write 0;write 9999;write 0070 end.",
+        CHECK.made("var a;b;begin b:=a end.", "JMP 0 1, INT 0 5, LOD 0 3, STO 0 4, OPR 0 0");
+        CHECK.made("begin write 0;write 9999;write 0070 end.",
                 "JMP 0 1, INT 0 3, LIT 0 0, OPR 0 10, LIT 0 9999, OPR 0 10, LIT 0 70, OPR 0 10, OPR 0 0");
-        made("begin write 1+2*3-4/5 end.",
+        CHECK.made("begin write 1+2*3-4/5 end.",
                 "JMP 0 1, INT 0 3, LIT 0 1, LIT 0 2, LIT 0 3, OPR 0 4, OPR 0 2, LIT 0 4, LIT 0 5, "
                 + "OPR 0 5, OPR 0 3, OPR 0 10, OPR 0 0");
-        made("begin write -1*2+3 end.",
+        CHECK.made("begin write -1*2+3 end.",
                 "JMP 0 1, INT 0 3, LIT 0 1, LIT 0 2, OPR 0 4, OPR 0 1, LIT 0 3, OPR 0 2, OPR 0 10, OPR 0 0");
-        made("begin write 1-(-2-3) end.",
+        CHECK.made("begin write 1-(-2-3) end.",
                 "JMP 0 1, INT 0 3, LIT 0 1, LIT 0 2, OPR 0 1, LIT 0 3, OPR 0 3, OPR 0 3, OPR 0 10, OPR 0 0");
     }
 
     private static void arrays() {
-        made("var x;a array 5;b array 2;begin b[1]:=a[x] end.",
+        CHECK.made("var x;a array 5;b array 2;begin b[1]:=a[x] end.",
                 "JMP 0 1, INT 0 11, LIT 0 1, CHK 0 2, LOD 0 3, CHK 0 5, LDX 0 4, STX 0 9, OPR 0 0");
-        made("var a array 5;proc f;begin a[a[1]]:=2 end;begin end.",
+        CHECK.made("var a array 5;proc f;begin a[a[1]]:=2 end;begin end.",
                 "JMP 0 10, JMP 0 2, INT 0 3, LIT 0 1, CHK 0 5, LDX 1 3, CHK 0 5, LIT 0 2, STX 1 3, "
                 + "OPR 0 0, INT 0 8, OPR 0 0");
     }
 
     private static void jumps() {
-        made("begin if 1=2 then write 3 end.",
+        CHECK.made("begin if 1=2 then write 3 end.",
                 "JMP 0 1, INT 0 3, LIT 0 1, LIT 0 2, OPR 0 6, JPC 0 8, LIT 0 3, OPR 0 10, OPR 0 0");
-        made("begin if 1#2 then write 3 else write 4 end.",
+        CHECK.made("begin if 1#2 then write 3 else write 4 end.",
                 "JMP 0 1, INT 0 3, LIT 0 1, LIT 0 2, OPR 0 7, JPC 0 9, LIT 0 3, OPR 0 10, JMP 0 11, "
                 + "LIT 0 4, OPR 0 10, OPR 0 0");
-        made("begin if 1<2 then if 3>4 then else write 5 end.",
+        CHECK.made("begin if 1<2 then if 3>4 then else write 5 end.",
                 "JMP 0 1, INT 0 3, LIT 0 1, LIT 0 2, OPR 0 8, JPC 0 13, LIT 0 3, LIT 0 4, OPR 0 9, "
                 + "JPC 0 11, JMP 0 13, LIT 0 5, OPR 0 10, OPR 0 0");
-        made("begin if 1<2 then else end.",
+        CHECK.made("begin if 1<2 then else end.",
                 "JMP 0 1, INT 0 3, LIT 0 1, LIT 0 2, OPR 0 8, JPC 0 7, JMP 0 7, OPR 0 0");
-        made("begin while 1<2 do write 3 end.",
+        CHECK.made("begin while 1<2 do write 3 end.",
                 "JMP 0 1, INT 0 3, LIT 0 1, LIT 0 2, OPR 0 8, JPC 0 9, LIT 0 3, OPR 0 10, JMP 0 2, OPR 0 0");
     }
 
     private static void calls() {
-        made("proc f(a,b,c);begin f(c,b,a) end;begin f(1,2,3) end.",
+        CHECK.made("proc f(a,b,c);begin f(c,b,a) end;begin f(1,2,3) end.",
                 "JMP 0 8, JMP 0 2, INT 0 3, LOD 0 -1, LOD 0 -2, LOD 0 -3, CAL 1 1, OPR 3 0, "
                 + "INT 0 3, LIT 0 1, LIT 0 2, LIT 0 3, CAL 0 1, OPR 0 0");
-        made("proc f(a);begin a:=a+1 end;begin f(-1) end.",
+        CHECK.made("proc f(a);begin a:=a+1 end;begin f(-1) end.",
                 "JMP 0 8, JMP 0 2, INT 0 3, LOD 0 -1, LIT 0 1, OPR 0 2, STO 0 -1, OPR 1 0, "
                 + "INT 0 3, LIT 0 1, OPR 0 1, CAL 0 1, OPR 0 0");
-        made("var v;proc a;proc b;proc c;proc d;begin v:=v;a;b;c;d end;begin end;begin end;begin end;begin end.",
+        CHECK.made("var v;proc a;proc b;proc c;proc d;begin v:=v;a;b;c;d end;begin end;begin end;begin end;begin end.",
                 "JMP 0 19, JMP 0 17, JMP 0 15, JMP 0 13, JMP 0 5, INT 0 3, LOD 4 3, STO 4 3, CAL 4 1, "
                 + "CAL 3 2, CAL 2 3, CAL 1 4, OPR 0 0, INT 0 3, OPR 0 0, INT 0 3, OPR 0 0, "
                 + "INT 0 3, OPR 0 0, INT 0 4, OPR 0 0");
     }
 
     private static void meaningOfNames() {
-        made("var x;y;proc f(x);var y;begin x:=y end;begin x:=y end.",
+        CHECK.made("var x;y;proc f(x);var y;begin x:=y end;begin x:=y end.",
                 "JMP 0 6, JMP 0 2, INT 0 4, LOD 0 3, STO 0 -1, OPR 1 0, INT 0 5, LOD 0 4, STO 0 3, OPR 0 0");
         // A later procedure of the same name is not yet declared where the name stands.
-        made("proc f;begin end;proc g;proc h;begin f end;proc f;begin f end;begin f end;begin end.",
+        CHECK.made("proc f;begin end;proc g;proc h;begin f end;proc f;begin f end;begin f end;begin end.",
                 "JMP 0 16, JMP 0 2, INT 0 3, OPR 0 0, JMP 0 13, JMP 0 6, INT 0 3, CAL 2 1, OPR 0 0, "
                 + "JMP 0 10, INT 0 3, CAL 1 9, OPR 0 0, INT 0 3, CAL 0 9, OPR 0 0, INT 0 3, OPR 0 0");
     }

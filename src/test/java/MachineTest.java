@@ -171,42 +171,35 @@ public final class MachineTest {
         CHECK.due("cell(3) when trapped", 3, x.cell(3));
     }
 
-    /** A program whose variables leave so many of the 200 cells free. */
-    private static String leavingFree(int cells, String statements) {
-        int last = 200 - 3 - 1 - 5 * 30 - cells;
-        return "var x;a array30;b array30;c array30;d array30;e array30;"
-                + (last > 30 ? "h array30;i array" + (last - 30) : "h array" + last) + ";" + statements;
-    }
-
     private static void fullByPutOn() {
-        NestPascal enough = Check.started(leavingFree(3, "begin write 1+(2+3) end."));
+        NestPascal enough = Check.started(Check.leavingFree(3, "begin write 1+(2+3) end."));
         Check.runOut(enough);
         CHECK.due("about where it just fits", "2 0 0 -1 0 1", Check.facts(enough));
         CHECK.due("written(0)", 6, enough.written(0));
-        NestPascal x = Check.started(leavingFree(2, "begin write 1+(2+3) end."));
+        NestPascal x = Check.started(Check.leavingFree(2, "begin write 1+(2+3) end."));
         CHECK.due("run(200), full by LIT", 5, x.run(200));
         CHECK.due("about, full by LIT", "3 4 0 199 1 0", Check.facts(x));
         CHECK.due("cells, full by LIT", "0 1 2", Check.cells(x, 197, 199));
         CHECK.due("run(200) when full", 0, x.run(200));
-        NestPascal y = Check.started(leavingFree(1, "begin write 1+x end."));
+        NestPascal y = Check.started(Check.leavingFree(1, "begin write 1+x end."));
         CHECK.due("run(200), full by LOD", 4, y.run(200));
         CHECK.due("about, full by LOD", "3 3 0 199 1 0", Check.facts(y));
         // LDX takes off before it puts on.
-        NestPascal z = Check.started(leavingFree(1, "begin a[0]:=x end."));
+        NestPascal z = Check.started(Check.leavingFree(1, "begin a[0]:=x end."));
         z.run(200);
         CHECK.due("about, an element with one cell free", "3 4 0 199 1 0", Check.facts(z));
-        NestPascal w = Check.started(leavingFree(1, "begin write a[0] end."));
+        NestPascal w = Check.started(Check.leavingFree(1, "begin write a[0] end."));
         w.run(200);
         CHECK.due("about, LDX at the highest cell", "2 0 0 -1 0 1", Check.facts(w));
     }
 
     private static void fullByCall() {
         String text = "proc f;begin end;begin f end.";
-        NestPascal enough = Check.started(leavingFree(3, text));
+        NestPascal enough = Check.started(Check.leavingFree(3, text));
         enough.run(200);
         CHECK.due("about where the call just fits", "2 0 0 -1 0 0", Check.facts(enough));
         for (int free = 0; free < 3; free++) {
-            NestPascal x = Check.started(leavingFree(free, text));
+            NestPascal x = Check.started(Check.leavingFree(free, text));
             CHECK.due("run(200), full by CAL", 3, x.run(200));
             CHECK.due("about, full by CAL", "3 5 0 " + (199 - free) + " 1 0", Check.facts(x));
         }
@@ -217,17 +210,17 @@ public final class MachineTest {
     }
 
     private static void fullByInt() {
-        NestPascal x = Check.started(leavingFree(0, "begin end."));
+        NestPascal x = Check.started(Check.leavingFree(0, "begin end."));
         x.run(2);
         CHECK.due("about with all cells", "1 2 0 199 1 0", Check.facts(x));
-        NestPascal y = Check.started(leavingFree(-1, "begin end."));
+        NestPascal y = Check.started(Check.leavingFree(-1, "begin end."));
         CHECK.due("run(200), full by INT", 2, y.run(200));
         CHECK.due("about, full by INT", "3 1 0 -1 1 0", Check.facts(y));
-        NestPascal z = Check.started(leavingFree(3, "proc f;var v;begin end;begin f end."));
+        NestPascal z = Check.started(Check.leavingFree(3, "proc f;var v;begin end;begin f end."));
         z.run(200);
         CHECK.due("about, full by a procedure's INT", "3 2 197 196 2 0", Check.facts(z));
         CHECK.due("cells, full by a procedure's INT", "0 0 6", Check.cells(z, 197, 199));
-        NestPascal four = Check.started(leavingFree(4, "proc f;var v;begin end;begin f end."));
+        NestPascal four = Check.started(Check.leavingFree(4, "proc f;var v;begin end;begin f end."));
         four.run(200);
         CHECK.due("about(0), where the procedure just fits", 2, four.about(0));
     }
