@@ -174,7 +174,10 @@ final class Check {
     }
 
     void errorAt(int want, int place, String text) {
-        NestPascal x = new NestPascal();
+        errorAt(new NestPascal(), want, place, text);
+    }
+
+    void errorAt(NestPascal x, int want, int place, String text) {
         put(x, text);
         due("whether compile throws for " + text, true, compileThrows(x));
         due("error(0) of " + text, want, x.error(0));
@@ -215,7 +218,10 @@ final class Check {
 
     /** A text without an error. */
     void fine(String text) {
-        NestPascal x = new NestPascal();
+        fine(new NestPascal(), text);
+    }
+
+    void fine(NestPascal x, String text) {
         put(x, text);
         due("whether compile throws for " + text, false, compileThrows(x));
         due("error(0) of " + text, NestPascal.NONE, x.error(0));

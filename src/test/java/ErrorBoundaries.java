@@ -129,6 +129,13 @@ final class ErrorBoundaries {
         check.errorAt(1, 179, "begin end." + " ".repeat(169) + "?");
         check.errorAt(1, 180, "begin end" + " ".repeat(171));
         check.errorAt(1, 180, " ".repeat(180));
+        // Rows that only the end of 180 characters ends.
+        check.errorAt(2, 177, "begin" + " ".repeat(172) + "abc");
+        check.errorAt(1, 180, "begin write" + " ".repeat(166) + "123");
+        check.errorAt(1, 179, "begin" + " ".repeat(174) + ":");
+        // As many tokens as there are characters.
+        check.errorAt(1, 0, ";".repeat(180));
+        check.errorAt(1, 180, "begin" + ";".repeat(175));
     }
 
     private void noToken() {
@@ -288,6 +295,9 @@ final class ErrorBoundaries {
         check.error(5, DECLARED + "f|(");
         check.error(5, "proc f;begin f|(1) end;begin end.");
         check.fine(DECLARED + "g(1) end.");
+        // There were parameters, but of a procedure that is known no more.
+        check.fine("proc a;proc p(x);begin end;begin p(1) end;proc b;begin end;begin b end.");
+        check.error(5, "proc a;proc p(x);begin end;begin p(1) end;proc b;begin end;begin b|(1) end.");
     }
 
     private void noArguments() {
@@ -347,6 +357,9 @@ final class ErrorBoundaries {
         check.error(1, DECLARED + "g|");
         check.error(1, DECLARED + "g |then end.");
         check.error(1, DECLARED + "g |else end.");
+        check.error(1, DECLARED + "f;g |else end.");
+        check.error(1, DECLARED + "if 1=1 then begin f;g |else end end.");
+        check.error(1, DECLARED + "if 1=1 then;g |else end.");
         check.error(1, DECLARED + "if 1=1 then else g |else end.");
         check.error(1, DECLARED + "while 1=1 do g |else end.");
         check.error(1, DECLARED + "g(|) end.");
@@ -379,6 +392,26 @@ final class ErrorBoundaries {
         Check.put(x, "begin end." + " ".repeat(169));
         check.due("write where the text is full", false, x.write(' '));
         check.due("compile()", 3, x.compile());
+        nothingIsLeftOfTheText();
+    }
+
+    /** Whatever the text before had declared or opened, and however it went on where this one ends. */
+    private void nothingIsLeftOfTheText() {
+        NestPascal x = new NestPascal();
+        String open = "var v;proc f(x);proc b;proc c;proc d;begin begin begin begin write (((";
+        check.errorAt(x, 1, open.length(), open + "?");
+        check.errorAt(x, 2, 6, "begin v:=1 end.");
+        check.errorAt(x, 2, 6, "begin f(1) end.");
+        check.fine(x, "var v;begin begin begin begin begin begin begin write v end end end end end end end.");
+        check.errorAt(x, 2, 6, "begin v:=1 end.");
+        check.fine(x, "proc a;proc b;proc c;proc d;begin end;begin end;begin end;begin end;begin end.");
+        check.errorAt(x, 1, 12, "begin write 9999999999");
+        check.errorAt(x, 1, 13, "begin write 1");
+        check.fine(x, "begin end.");
+        check.errorAt(x, 2, 6, "begin en");
+        check.errorAt(x, 1, 9, "begin end");
+        check.fine(x, "var a array 2;begin a[1]:=1 end.");
+        check.errorAt(x, 1, 24, "var a array 2;begin a[1]:");
     }
 
     private void machineIsIdle() {

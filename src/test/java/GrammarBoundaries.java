@@ -72,6 +72,10 @@ final class GrammarBoundaries {
         most.append("begin end.");
         check.due("the length of the text with most names", 180, most.length());
         check.made(most.toString(), "JMP 0 1, INT 0 67, OPR 0 0");
+        // The most with a statement that tells the last of them from one another.
+        String many = most.substring(0, 4 + 2 * 26 + 3 * 35);
+        check.made(many + "begin hk:=ik end.", "JMP 0 1, INT 0 64, LOD 0 63, STO 0 62, OPR 0 0");
+        check.made(many + "begin a:=gk end.", "JMP 0 1, INT 0 64, LOD 0 61, STO 0 3, OPR 0 0");
         check.error(1, "var v|");
         check.error(1, "var v |begin end.");
         check.error(1, "var v|,w;begin end.");

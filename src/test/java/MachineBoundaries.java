@@ -96,6 +96,10 @@ final class MachineBoundaries {
         check.due("the link and the caller's base of q, called by p", "4 4", Check.cells(x, 8, 9));
         x.run(3);
         check.due("the link and the caller's base of q, called by q", "4 8", Check.cells(x, 11, 12));
+        x.run(3);
+        check.due("the link and the caller's base of q, called by q again", "4 11", Check.cells(x, 14, 15));
+        // The frame around, not that of the caller.
+        check.writes("var x;proc p;begin write x end;proc q;var x;begin x:=2;p end;begin x:=1;q end.", "1");
     }
 
     private void call() {

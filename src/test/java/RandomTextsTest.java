@@ -17,9 +17,10 @@ public final class RandomTextsTest {
     public static void main(String[] args) {
         Random random = new Random(20261115);
         int compiled = 0;
-        for (int object = 0; object < 400; object++) {
+        for (int object = 0; object < 2000; object++) {
             NestPascal x = new NestPascal();
-            for (int i = 0; i < 10; i++) {
+            // Two texts stay below the 512 calls for which an object is used.
+            for (int i = 0; i < 2; i++) {
                 compiled += tryText(x, text(random), random) ? 1 : 0;
             }
         }
@@ -40,14 +41,24 @@ public final class RandomTextsTest {
         return text.length() > 180 ? text.substring(0, 180) : text.toString();
     }
 
+    /** What can be seen of program and machine by some fifty calls. */
+    private static String shown(NestPascal x) {
+        int size = x.code(-1, 0);
+        StringBuilder all = new StringBuilder(Check.facts(x)).append(' ').append(size);
+        for (int k = 0; k < Math.min(size, 40); k++) {
+            all.append(' ').append(x.code(k, 2));
+        }
+        return all.toString();
+    }
+
     private static boolean tryText(NestPascal x, String text, Random random) {
         Check.put(x, text);
-        String before = Check.listing(x) + Check.facts(x);
+        String before = shown(x);
         boolean thrown = Check.compileThrows(x);
         if (thrown) {
             CHECK.due("whether error(0) is one, of " + text, true, x.error(0) >= 1 && x.error(0) <= 6);
             CHECK.due("whether error(1) is a place, of " + text, true, x.error(1) >= 0 && x.error(1) <= text.length());
-            CHECK.due("program and machine behind the error of " + text, before, Check.listing(x) + Check.facts(x));
+            CHECK.due("program and machine behind the error of " + text, before, shown(x));
         } else {
             CHECK.due("error(0) of " + text, NestPascal.NONE, x.error(0));
             CHECK.due("state behind " + text, 0, x.about(0));

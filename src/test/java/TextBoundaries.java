@@ -39,6 +39,37 @@ final class TextBoundaries {
             check.due("whether compile() throws as call " + call, true, Check.compileThrows(x));
         }
         NestPascal y = new NestPascal();
+        for (int call = 1; call <= 512; call++) {
+            check.due("write as call " + call, call <= 180, y.write(' '));
+        }
+        oneMethodUpToCall512();
+        manySteps();
+        manyTexts();
+    }
+
+    private void oneMethodUpToCall512() {
+        String text = "var v;begin v:=7;write 8;while 1=1 do end.";
+        for (int method = 0; method < 8; method++) {
+            NestPascal x = Check.started(text);
+            x.run(20);
+            for (int call = (text.length() + 7) / 8 + 4; call <= 512; call++) {
+                String what = " of method " + method + " as call " + call;
+                switch (method) {
+                    case 0 -> check.due("about(5)" + what, 1, x.about(5));
+                    case 1 -> check.due("cell(3)" + what, 7, x.cell(3));
+                    case 2 -> check.due("written(0)" + what, 8, x.written(0));
+                    case 3 -> check.due("variable(0, 3)" + what, 7, x.variable(0, 3));
+                    case 4 -> check.due("code(1, 2)" + what, 4, x.code(1, 2));
+                    case 5 -> check.due("error(0)" + what, NestPascal.NONE, x.error(0));
+                    case 6 -> check.due("start()" + what, true, x.start());
+                    default -> check.due("run(3)" + what, 3, x.run(3));
+                }
+            }
+        }
+    }
+
+    private void manySteps() {
+        NestPascal y = new NestPascal();
         String text = "var v;begin while 1=1 do v:=v+1 end.";
         Check.put(y, text);
         y.compile();
@@ -51,6 +82,9 @@ final class TextBoundaries {
         }
         // JMP and INT come first; of the nine steps of a round the eighth stores.
         check.due("variable(0, 3) as call 512", (steps - 2 + 1) / 9, y.variable(0, 3));
+    }
+
+    private void manyTexts() {
         NestPascal z = new NestPascal();
         for (int call = 1; call <= 506; call += 23) {
             for (int part = 0; part < 22; part++) {
@@ -134,8 +168,22 @@ final class TextBoundaries {
         check.error(1, "begin |abcdefg:=1 end.");
         check.error(2, "begin |abcdef:=1 end.");
         // All six letters count, and how many they are.
-        check.fine("var abcdef;abcdeg;bbcdef;a;aa;aaaaa;aaaaaa;begin end.");
+        check.fine("var a;aa;aaa;aaaa;aaaaa;aaaaaa;begin end.");
         check.error(3, "var abcdef;abcdeg;|abcdef;begin end.");
+        for (int place = 0; place < 6; place++) {
+            for (char c = 'b'; c <= 'z'; c++) {
+                check.fine("var " + with(c, place) + ";" + with((char) (c - 1), place) + ";"
+                        + (c == 'z' ? "" : with('z', place) + ";") + "begin end.");
+            }
+        }
+        check.fine("var abcdef;cbcdef;ebcdef;ibcdef;qbcdef;ubcdef;ybcdef;begin end.");
+    }
+
+    /** A name of six letters with another one at a place. */
+    private static String with(char letter, int place) {
+        StringBuilder name = new StringBuilder("kkkkkk");
+        name.setCharAt(place, letter);
+        return name.toString();
     }
 
     private void letters() {
