@@ -54,7 +54,8 @@ final class CodeBoundaries {
     private void cellOfFrame() {
         check.writes("var a;proc p;var b;proc q;var c;proc r;var d;proc s;begin write a;write b;write c;write d end;"
                 + "begin d:=4;s end;begin c:=3;r end;begin b:=2;q end;begin a:=1;p end.", "1 2 3 4");
-        check.writes("var a;b;proc p;var a;begin a:=3;write a;b:=a end;begin a:=1;b:=2;p;write a;write b end.", "3 1 3");
+        check.writes("var a;b;proc p;var a;begin a:=3;write a;b:=a end;begin a:=1;b:=2;p;write a;write b end.",
+                "3 1 3");
         // The frame around, not that of the caller.
         check.writes("var x;proc p;begin write x end;proc q;var x;begin x:=2;p end;begin x:=1;q end.", "1");
     }
@@ -365,7 +366,8 @@ final class CodeBoundaries {
     private void whiles() {
         String condition = "LIT 0 1, LIT 0 2, OPR 0 6, ";
         check.made("begin while 1=2 do end.", "JMP 0 1, INT 0 3, " + condition + "JPC 0 7, JMP 0 2, OPR 0 0");
-        check.made("begin write 9;while 1=2 do write 3;write 4 end.", "JMP 0 1, INT 0 3, LIT 0 9, OPR 0 10, " + condition
+        check.made("begin write 9;while 1=2 do write 3;write 4 end.",
+                "JMP 0 1, INT 0 3, LIT 0 9, OPR 0 10, " + condition
                 + "JPC 0 11, LIT 0 3, OPR 0 10, JMP 0 4, LIT 0 4, OPR 0 10, OPR 0 0");
         check.made("begin while 1=2 do while 1=2 do end.", "JMP 0 1, INT 0 3, " + condition + "JPC 0 12, " + condition
                 + "JPC 0 11, JMP 0 6, JMP 0 2, OPR 0 0");

@@ -12,8 +12,8 @@ final class ErrorBoundaries {
     }
 
     void all() {
-        check.sentence("A NAME means the variable, array, parameter (a variable) or procedure declared of it in the block",
-                this::meaning);
+        check.sentence("A NAME means the variable, array, parameter (a variable) or procedure declared of it"
+                + " in the block", this::meaning);
         check.sentence("(a procedure's parameters and own variables are its block's, it itself is of the one around),",
                 this::blockOfNames);
         check.sentence("so far,", this::soFar);
@@ -89,7 +89,8 @@ final class ErrorBoundaries {
     private void blocksAround() {
         String l = "LOD 0 3, STO 0 3, ";
         check.made("var v;proc a;var v;proc b;var v;begin v:=v end;begin v:=v end;begin v:=v end.",
-                "JMP 0 11, JMP 0 7, JMP 0 3, INT 0 4, " + l + "OPR 0 0, INT 0 4, " + l + "OPR 0 0, INT 0 4, " + l + "OPR 0 0");
+                "JMP 0 11, JMP 0 7, JMP 0 3, INT 0 4, " + l + "OPR 0 0, INT 0 4, " + l + "OPR 0 0, INT 0 4, " + l
+                + "OPR 0 0");
         check.made("var v;proc a;var v;proc b;begin v:=v end;begin end;begin end.",
                 "JMP 0 9, JMP 0 7, JMP 0 3, INT 0 3, LOD 1 3, STO 1 3, OPR 0 0, INT 0 4, OPR 0 0, INT 0 4, OPR 0 0");
         check.made("var v;proc a;proc b;begin v:=v end;begin end;begin end.",

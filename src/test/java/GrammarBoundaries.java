@@ -17,7 +17,8 @@ final class GrammarBoundaries {
         check.sentence("BLOCK: perhaps var and one or more of: name ; and name array number ;", this::variables);
         check.sentence("(so many cells, 1 .. 30).", this::sizes);
         check.sentence("Then any number of procedures:", this::numberOfProcedures);
-        check.sentence("proc name, perhaps ( and 1 to 3 names, PARAMETERS, with , between and ) behind,", this::parameters);
+        check.sentence("proc name, perhaps ( and 1 to 3 names, PARAMETERS, with , between and ) behind,",
+                this::parameters);
         check.sentence("then ; and a block and ;.", this::blocksOfProcedures);
         check.sentence("Then begin STATEMENTS, with ; between, end.", this::statements);
         check.sentence("STATEMENT: nothing;", this::nothing);
@@ -37,8 +38,8 @@ final class GrammarBoundaries {
         check.sentence("begin (not of blocks),", this::deepBegins);
         check.sentence("if, while (as long as their statements);", this::deepIfsAndWhiles);
         check.sentence("at most 6.", this::deepMixed);
-        check.sentence("LEVELS: the program's block 0, a procedure's block one more than the one it stands in, at most 4.",
-                this::levels);
+        check.sentence("LEVELS: the program's block 0, a procedure's block one more than the one it stands in,"
+                + " at most 4.", this::levels);
     }
 
     private void program() {
@@ -374,7 +375,8 @@ final class GrammarBoundaries {
         check.fine("begin " + SIX + SIX_ENDS + " end.");
         check.error(1, "begin " + SIX + "|begin end" + SIX_ENDS + " end.");
         // The blocks' own do not count, however many levels there are.
-        check.fine("proc a;proc b;proc c;proc d;begin " + SIX + SIX_ENDS + " end;begin end;begin end;begin end;begin end.");
+        check.fine("proc a;proc b;proc c;proc d;begin " + SIX + SIX_ENDS
+                + " end;begin end;begin end;begin end;begin end.");
         check.error(1, "proc a;proc b;proc c;proc d;begin " + SIX + "|begin end");
     }
 
@@ -428,7 +430,8 @@ final class GrammarBoundaries {
         // Procedures side by side have the same level.
         check.fine(four + "begin end;proc e;begin end;begin end;proc e;begin end;begin end;begin end;begin end.");
         check.made("var v;proc a;proc b;proc c;proc d;begin v:=1 end;begin v:=2 end;begin v:=3 end;begin v:=4 end;"
-                + "begin v:=5 end.", "JMP 0 21, JMP 0 17, JMP 0 13, JMP 0 9, JMP 0 5, INT 0 3, LIT 0 1, STO 4 3, OPR 0 0, "
+                + "begin v:=5 end.",
+                "JMP 0 21, JMP 0 17, JMP 0 13, JMP 0 9, JMP 0 5, INT 0 3, LIT 0 1, STO 4 3, OPR 0 0, "
                 + "INT 0 3, LIT 0 2, STO 3 3, OPR 0 0, INT 0 3, LIT 0 3, STO 2 3, OPR 0 0, "
                 + "INT 0 3, LIT 0 4, STO 1 3, OPR 0 0, INT 0 4, LIT 0 5, STO 0 3, OPR 0 0");
     }

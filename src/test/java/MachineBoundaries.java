@@ -6,7 +6,7 @@ final class MachineBoundaries {
     private static final String FULL = "proc f;begin f end;begin f end.";
     private static final String NO_ELEMENT = "var a array 2;begin write 5;write a[2] end.";
     private static final String NO_QUOTIENT = "begin write 5;write 1/0 end.";
-    /** 0 JMP 6, 1 JMP 2, 2 INT 4, 3 LIT 8, 4 STO 0 3, 5 OPR 2 0, 6 INT 4, 7 LIT 7, 8 STO 0 3, ... 11 CAL 0 1, 12 OPR. */
+    /** 0 JMP 6, 1 JMP 2, 2 INT 4, 3 LIT 8, 4 STO 0 3, 5 OPR 2 0, 6 INT 4, 7 LIT 7, 8 STO 0 3, ... 11 CAL 0 1. */
     private static final String ONE_CALL = "var v;proc f(x,y);var w;begin w:=8 end;begin v:=7;f(5,6) end.";
 
     private final Check check;
@@ -18,7 +18,8 @@ final class MachineBoundaries {
     void all() {
         check.sentence("THE MACHINE has CELLS 0 .. 199,", this::cells);
         check.sentence("a TOP (the uppermost one's place), a BASE, a next instruction.", this::topBaseNext);
-        check.sentence("To link l times from the base: l times the base becomes what the cell there says.", this::links);
+        check.sentence("To link l times from the base: l times the base becomes what the cell there says.",
+                this::links);
         check.sentence("CAL: into the three cells behind the top (the top stays) go: the base linked l times, the base,"
                 + " the next instruction (behind CAL); the base is the first of them.", this::call);
         check.sentence("INT: the cells that come on are 0, but the first three stay.", this::cellsThatComeOn);
@@ -120,7 +121,7 @@ final class MachineBoundaries {
 
     private void cellsThatComeOn() {
         NestPascal x = Check.before("proc f;var a;b;begin a:=8;b:=9 end;proc g;var a;b;begin end;begin f;f;g end.", 9);
-        check.due("where the frame of g stands", "1 9 3 2", x.about(0) + " " + x.about(1) + " " + x.about(2) + " " + x.about(3));
+        check.due("where the frame of g stands", "1 9 3 2 2 0", Check.facts(x));
         String head = Check.cells(x, 3, 5);
         check.due("its first three cells before INT", "0 0 15", head);
         x.run(1);
@@ -620,7 +621,8 @@ final class MachineBoundaries {
         check.due("y", 4, x.variable(1, 3));
         check.due("x", 1, x.variable(2, 3));
         // The links of the text, not the calls': p was called by q.
-        NestPascal y = Check.started("var x;proc p;begin while 1=1 do end;proc q;var x;begin x:=2;p end;begin x:=1;q end.");
+        NestPascal y = Check.started("var x;proc p;begin while 1=1 do end;proc q;var x;begin x:=2;p end;"
+                + "begin x:=1;q end.");
         y.run(50);
         check.due("frames", 3, y.about(4));
         check.due("the program's x", 1, y.variable(1, 3));

@@ -11,8 +11,8 @@ final class TextBoundaries {
     }
 
     void all() {
-        check.sentence("An object is used for at most 512 calls after it has been made; what later calls answer is free.",
-                this::calls);
+        check.sentence("An object is used for at most 512 calls after it has been made;"
+                + " what later calls answer is free.", this::calls);
         check.sentence("THE TEXT has at most 180 characters", this::roomOfText);
         check.sentence("with codes 32 .. 126,", this::codes);
         check.sentence("at first none.", this::noTextAtFirst);
