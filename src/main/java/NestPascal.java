@@ -696,6 +696,7 @@ public final class NestPascal {
         private void assignment(Name name) {
             boolean toElement = name.kind == Name.ARRAY;
             if (toElement) {
+                // This [ stands in a statement, not in an expression: it makes nothing deeper.
                 index(name);
             }
             expect(Token.BECOMES);
@@ -849,17 +850,17 @@ public final class NestPascal {
             }
             tokens.advance();
             if (indexed) {
+                deepen();
                 index(name);
+                deep--;
             }
             addNamed(indexed ? Code.LDX : Code.LOD, name);
         }
 
         private void index(Name array) {
-            deepen();
             tokens.advance();
             expression();
             expect(Token.SQUARE_CLOSE);
-            deep--;
             made.add(Code.CHK, 0, array.size);
         }
 

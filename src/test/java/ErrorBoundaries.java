@@ -180,7 +180,8 @@ final class ErrorBoundaries {
         check.error(1, "begin " + SIX + "write |(");
         check.error(1, "begin " + SIX + "write 1+2*|(");
         check.error(1, "var a array 9;begin " + SIX + "write a|[");
-        check.error(1, "var a array 9;begin " + SIX + "a|[");
+        check.error(1, "var a array 9;begin " + SIX + "a[a|[");
+        check.error(1, "var a array 9;begin " + SIX + "a[1]:=a|[");
         check.error(1, "proc g(x);begin end;begin " + SIX + "g|(");
         check.error(1, "begin " + SIX + "end;begin |begin");
         check.fine("begin " + SIX + "end;begin end" + SIX_ENDS + ".");

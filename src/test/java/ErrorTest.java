@@ -161,13 +161,14 @@ public final class ErrorTest {
         CHECK.fine(DECLARED + "g(((((1))))) end.");
         CHECK.fine(DECLARED + "g((((((1)))))) end.");
         CHECK.error(1, DECLARED + "g((((((|(1))))))) end.");
-        CHECK.fine(DECLARED + "a[(((((1)))))]:=1 end.");
-        CHECK.error(1, DECLARED + "a[(((((|(1))))))]:=1 end.");
+        CHECK.fine(DECLARED + "a[((((((1))))))]:=1 end.");
+        CHECK.error(1, DECLARED + "a[((((((|(1)))))))]:=1 end.");
         // Too deep and wrong of a call: the lower number.
         String six = "begin begin begin begin begin begin ";
         CHECK.error(1, "proc f;begin end;begin " + six + "f|(1) end.");
         CHECK.error(1, "proc f(x);begin end;begin " + six + "f|(1) end.");
-        CHECK.error(1, "var a array 2;begin " + six + "a|[1]:=1 end.");
+        CHECK.fine("var a array 2;begin " + six + "a[1]:=1 end end end end end end end.");
+        CHECK.error(1, "var a array 2;begin " + six + "a[a|[1]]:=1 end.");
         // The parameters' and the blocks' own do not count.
         CHECK.fine("proc a(x);proc b;proc c;begin write ((((((1)))))) end;begin end;begin end;begin end.");
     }

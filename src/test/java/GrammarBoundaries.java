@@ -353,9 +353,14 @@ final class GrammarBoundaries {
         check.error(1, DECLARED + "v:=a[(a[(a[(a|[1])])])] end.");
         check.fine("begin if ((((1))))=1 then end.");
         check.fine("begin while 1=((((1)))) do end.");
-        // The one in front of := is read as one of these.
-        check.fine(DECLARED + "a[(((((1)))))]:=1 end.");
-        check.error(1, DECLARED + "a[(((((|(1))))))]:=1 end.");
+        // The [ in front of := stands in a statement, in no expression: it does not count, what is in it does.
+        check.fine(DECLARED + "a[((((((1))))))]:=1 end.");
+        check.error(1, DECLARED + "a[((((((|(1)))))))]:=1 end.");
+        check.fine(DECLARED + "a[a[a[a[a[a[a[1]]]]]]]:=1 end.");
+        check.error(1, DECLARED + "a[a[a[a[a[a[a[a|[1]]]]]]]]:=1 end.");
+        check.fine("var a array 9;begin " + SIX + "a[1]:=1" + SIX_ENDS + " end.");
+        check.error(1, "var a array 9;begin " + SIX + "a[|(1)]:=1" + SIX_ENDS + " end.");
+        check.error(1, "var a array 9;begin " + SIX + "a[1]:=|(1)" + SIX_ENDS + " end.");
     }
 
     private void deepCalls() {
