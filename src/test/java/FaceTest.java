@@ -24,6 +24,13 @@ public final class FaceTest {
                         + Arrays.toString(m.getParameterTypes()) + Arrays.toString(m.getExceptionTypes()));
             }
         }
+        for (Class<?> inside : NestPascal.class.getDeclaredClasses()) {
+            CHECK.due("whether " + inside.getName() + " is static", true,
+                    Modifier.isStatic(inside.getModifiers()));
+            for (Method m : inside.getDeclaredMethods()) {
+                hidden.add(m.getName());
+            }
+        }
         for (Field f : NestPascal.class.getDeclaredFields()) {
             if (!Modifier.isPrivate(f.getModifiers())) {
                 shown.add(Modifier.toString(f.getModifiers()) + " " + f.getType() + " " + f.getName());
